@@ -9,7 +9,7 @@ public final class AnimationController {
 
     private static final int NUMBER = 0, SWITCH = 1, TRIGGER = 2;
     private static final int GREATER = 0, LESS = 1, EQUAL = 2, UNEQUAL = 3;
-    private static final int SOURCE_FIRST = 3, TARGET_ONLY = 2, TARGET_FIRST = 4, SOURCE_ONLY = 1;
+    private static final int SOURCE_ONLY = 1, TARGET_ONLY = 2, SOURCE_FIRST = 3, TARGET_FIRST = 4;
 
     private static final int MAX_PARAMETERS = 8, MAX_CLIPS = 12, MAX_EVENTS = 5;
     private static final int MAX_NODES = 20, MAX_CHILDREN = 5, MAX_DEPTH = 4;
@@ -322,7 +322,8 @@ public final class AnimationController {
     }
 
     public int blocked(int transition) throws IndexOutOfBoundsException {
-        return machine.obstacleOf(transitionAt(transition));
+        Transition asked = transitionAt(transition);
+        return machine.obstacleFrom(machine.originOf(asked), asked);
     }
 
     // ---- pose
@@ -1263,9 +1264,10 @@ public final class AnimationController {
         void runTick() {
             for (int i = 0; i < TAKEN_IN_A_TICK; i++) {
                 Transition next = firstPossible();
-                if (next != null) {
-                    take(next);
+                if (next == null) {
+                    break;
                 }
+                take(next);
             }
             advanceTracks();
             if (current != null) {
@@ -1295,7 +1297,7 @@ public final class AnimationController {
             for (int i = 0; i < model.transitions.size(); i++) {
                 Transition next = model.transitions.get(i);
                 boolean comesBefore = found == null || next.from == null && found.from != null;
-                if (comesBefore && originOf(next) == origin && obstacleOf(next) == 0) {
+                if (comesBefore && originOf(next) == origin && obstacleFrom(origin, next) == 0) {
                     found = next;
                 }
             }
@@ -1303,7 +1305,7 @@ public final class AnimationController {
         }
 
         /** From which list a transition is a candidate; an idle machine has the source list alone. */
-        private int originOf(Transition asked) {
+        int originOf(Transition asked) {
             if (current == null) {
                 return asked.isListed(source.state, source.state) ? FROM_SOURCE : NOWHERE;
             }
@@ -1322,9 +1324,8 @@ public final class AnimationController {
             }
         }
 
-        /** What hinders a transition from being taken, as blocked() tells it. */
-        int obstacleOf(Transition asked) {
-            int origin = originOf(asked);
+        /** What hinders a transition of this origin from being taken, as blocked() tells it. */
+        int obstacleFrom(int origin, Transition asked) {
             if (origin == NOWHERE) {
                 return 1;
             }

@@ -115,6 +115,14 @@ final class Script {
         return told.toString();
     }
 
+    /** The exception's name, and who threw it if it was not the class itself with a throw of its own. */
+    static String toldOf(Throwable thrown) {
+        StackTraceElement[] trace = thrown.getStackTrace();
+        String name = thrown.getClass().getSimpleName();
+        boolean isOwn = trace.length > 0 && trace[0].getClassName().startsWith("AnimationController");
+        return isOwn ? name : name + " of the machine";
+    }
+
     private static Object ask(AnimationController x, String call) {
         int open = call.indexOf('('), close = call.lastIndexOf(')');
         Method method = METHODS.get(call.substring(0, open).strip());
@@ -132,7 +140,7 @@ final class Script {
         try {
             return method.invoke(x, arguments);
         } catch (InvocationTargetException e) {
-            return "throws " + e.getCause().getClass().getSimpleName();
+            return "throws " + toldOf(e.getCause());
         } catch (IllegalAccessException e) {
             throw new IllegalStateException(e);
         }

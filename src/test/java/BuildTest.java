@@ -111,6 +111,10 @@ final class BuildTest {
             "set(0, 10); partWeight(0, 2) = 1000000; set(0, 11); partWeight(0, 2) = 1000000; stateLength(0) = 30\n",
             "set(0, 4); partWeight(0, 1) = 1000000; partWeight(0, 0) = 0; partWeight(0, 2) = 0; poseSize() = 1\n",
             "set(0, 5); partWeight(0, 0) = 0; partWeight(0, 1) = 833334; partWeight(0, 2) = 166666; stateLength(0) = 13; poseSize() = 2\n");
+        // 999999 * 2 + 1 * 1 is rounded down to one tick.
+        Script.run("a length is rounded down", "addParameter(0); addClip(2); addClip(1); addClipNode(0); addClipNode(1); addLine(0) = 2; addLine(0) = 3; addLine(0) = 4\n",
+            "addChild(2, 0, 0); addChild(2, 1, 100); addChild(3, 0, 0); addChild(3, 2, 100); addChild(4, 0, 0); addChild(4, 3, 100); addState(4, 100, true, 0)\n",
+            "stateLength(0) = 2; set(0, 1); partWeight(0, 0) = 999999; partWeight(0, 1) = 1; stateLength(0) = 1; set(0, 100); stateLength(0) = 1\n");
         // The same clip through two lines: each share is rounded by itself, and then they are added.
         Script.run("blend of lines in lines", lines, "addLine(1) = 4; addChild(4, 3, 0); addChild(4, 0, 3); addState(4, 100, true, 0) = 1\n",
             "set(1, 1); partWeight(1, 0) = 523810; partWeight(1, 1) = 476190; partWeight(1, 2) = 0\n",

@@ -218,6 +218,7 @@ final class EdgesOfBuilding {
         Sentences.test("Throws `IllegalArgumentException` if code is out of range", Sentences.argument("type(-1)", "type(256)", "type(MIN)", "type(MAX)"), "type(255) = 1; type(0) = 2\n", Sentences.times(148, "type(65)"), Sentences.argument("type(-1)", "type(256)"));
         Sentences.test("Throws `IllegalStateException` if the text has 150 bytes", Sentences.times(149, "type(65)"), "type(65) = 150\n", Sentences.state("type(65)", "type(0)", "type(255)"), "count(7) = 150; clearText() = 150; type(65) = 1\n");
         Sentences.in("Promise 17: clearText");
+        Sentences.test("Empties the text.", BASE, Sentences.text("A>B/60o", -1), "clearText() = 7; type(65) = 1; fault() = 1; type(62) = 2; fault() = 2; type(66) = 3; fault() = 3; type(47) = 4; fault() = 4; type(54) = 5; fault() = -1; load() = 1; tick(6); state() = 1; transition() = -1\n");
         Sentences.test("Empties the text.", BASE, Sentences.text("A>B/5x", 5), "clearText() = 6; count(7) = 0; fault() = 0\n", Sentences.state("load()"), Sentences.text("A>B/5", -1), "load() = 1\n");
         Sentences.test("Returns the length that it had.", BASE, "clearText() = 0; clearText() = 0; type(65) = 1; clearText() = 1; clearText() = 0\n", Sentences.text("A>B/5", -1), "load() = 1; clearText() = 0\n", Sentences.times(150, "type(65)"), "clearText() = 150; clearText() = 0\n");
     }

@@ -159,6 +159,9 @@ final class EdgesOfMachine {
             "set(0, 1); set(1, 1); set(2, 1); set(3, 1); set(4, 1); blocked(0) = 0; blocked(1) = 0; tick(1); transition() = 0; value(0) = 0; value(1) = 0; value(2) = 1; value(3) = 1; value(4) = 1\n");
         Sentences.test("To take a possible candidate y: all parameters that are triggers and occur in its conditions become 0.", THREE,
             "addTransition(0, 1, 5) = 0; addCondition(0, 0, 2, 1); addCondition(0, 1, 2, 1); set(0, 1); tick(1); transition() = -1; value(0) = 1; set(1, 1); foretell(1) = 1; value(0) = 1; tick(1); value(0) = 0; value(1) = 0\n");
+        // Triggers that the conditions do not name stay, however few conditions there are.
+        Sentences.test("To take a possible candidate y: all parameters that are triggers and occur in its conditions become 0.", THREE,
+            "addTransition(0, 1, 0) = 0; addTransition(1, 2, 0) = 1; setTiming(1, 20, 0); addCondition(1, 1, 2, 1); set(0, 1); set(1, 1); tick(1); state() = 1; value(0) = 1; value(1) = 1; tick(2); state() = 2; value(0) = 1; value(1) = 0\n");
         Sentences.test("If the machine is idle, its track becomes the source.", THREE, "addTransition(0, 1, 5); setTiming(0, 30, 50); tick(3); state() = 0; progress(false) = 300000; tick(1); state() = 0; isFrozen() = false; progress(false) = 400000; progress(true) = 600000\n");
         // A at 300000 with the share 700000, and B, which began at 500000, at 800000.
         String three = THREE + "addTransition(0, 1, 10) = 0; setTiming(0, NONE, 50); addTransition(0, 2, 10) = 1; addTransition(1, 2, 10) = 2; addCondition(1, 0, 2, 1); addCondition(2, 1, 2, 1); setInterruption(0, 3, false); tick(3)\n"
@@ -203,6 +206,7 @@ final class EdgesOfMachine {
         Sentences.test(at0, THREE, "addTransition(0, 1, 2) = 0; tick(1); transition() = 0; elapsed() = 1; tick(1); transition() = -1\n");
         // At the elapsed time 0 the target has no share, so the frozen pose is that of the source alone.
         Sentences.test(at0, THREE, "addTransition(0, 1, 2) = 0; setInterruption(0, 2, false); addTransition(1, 2, 4) = 1; tick(1); transition() = 1; state() = 1; progress(false) = 0\n", Sentences.pose(0, 0, 750000, 2, 1, 250000));
+        Sentences.test(at0, THREE, "addTransition(0, 1, 1) = 0; setInterruption(0, 2, false); addTransition(1, 2, 4) = 1; tick(1); transition() = 1; state() = 1; progress(false) = 0\n", Sentences.pose(0, 0, 750000, 2, 1, 250000));
     }
 
     private static void fourTimes() {
@@ -234,6 +238,8 @@ final class EdgesOfMachine {
         // From the slowest to the fastest: 1 of 500, then S is 7 and L is 491, and then 14 and 483.
         Sentences.test(together, "addClip(500); addClip(1); addClipNode(0); addClipNode(1); addState(0, 1, true, 3); addState(1, 400, true, 3); addTransition(0, 1, 60)\n",
             "tick(1); progress(true) = 20; progress(false) = 20; tick(1); progress(true) = 162; tick(1); progress(true) = 451; tick(57); target() = -1; state() = 1\n");
+        // In its only tick a transition of the duration 1 has the elapsed time 0, and so the step of the source.
+        Sentences.test(together, "addClip(10); addClip(20); addClipNode(0); addClipNode(1); addState(0, 100, true, 1); addState(1, 50, true, 1); addTransition(0, 1, 1); tick(1); state() = 1; transition() = -1; progress(false) = 100000; tick(1); progress(false) = 125000\n");
         Sentences.test(together, EdgesOfParts.CLIP, "addState(0, 100, true, 0); addState(0, 50, true, 0); addTransition(0, 1, 9); tick(4); progress(false) = 400000; progress(true) = 200000\n");
         Sentences.test(together, EdgesOfParts.CLIP, "addState(0, 100, true, 1); addState(0, 50, true, 2); addTransition(0, 1, 9); tick(4); progress(false) = 400000; progress(true) = 200000\n");
         Sentences.test(together, EdgesOfParts.CLIP, "addState(0, 100, false, 1); addState(0, 100, true, 1); addTransition(0, 1, 9); setTiming(0, 80, 0); tick(8); progress(false) = 800000; tick(3); progress(false) = 1000000; progress(true) = 1100000\n");
@@ -264,6 +270,9 @@ final class EdgesOfMachine {
         Sentences.test(share, THREE, "addEvent(0, 2, 1); addEvent(1, 2, 2); addTransition(0, 1, 2); setThreshold(0); tick(1) = 0; tick(1) = 1; event(0, 1) = 2\n");
         Sentences.test(share, THREE, "addEvent(0, 2, 1); addEvent(1, 2, 2); addTransition(0, 1, 2); setThreshold(100); tick(1) = 0; tick(1) = 1; event(0, 1) = 2\n");
         Sentences.test(share, THREE, "addEvent(0, 1, 1); setThreshold(100); tick(1) = 1\n");
+        // When the transition ends, the target's own progress before the tick counts, and that it was fresh.
+        Sentences.test(share, THREE, "addEvent(1, 0, 1); addEvent(1, 2, 2); addTransition(0, 1, 2) = 0; setTiming(0, 250, 0); tick(25) = 0; tick(1) = 1; transition() = 0; tick(1) = 1; transition() = -1; event(1, 0) = 27; event(1, 1) = 2\n");
+        Sentences.test(share, THREE, "addEvent(1, 0, 1); addEvent(1, 2, 2); addTransition(0, 1, 1) = 0; setTiming(0, 250, 20); setThreshold(100); tick(25) = 0; tick(1) = 1; transition() = -1; event(0, 1) = 2; progress(false) = 300000\n");
         // 16667 of the source are left after 59 of 60 ticks.
         Sentences.test(share, THREE, "addEvent(0, 9, 1); addTransition(0, 1, 60); setThreshold(1); tick(58); tick(1) = 1; setThreshold(2); reset(); tick(58); tick(1) = 0\n");
     }
@@ -367,6 +376,8 @@ final class EdgesOfMachine {
             "set(1, 1); tick(1); poseSize() = 24; poseWeight(0) = 120874; poseWeight(23) = 2083; set(2, 1); tick(1)\n",
             Sentences.pose(0, 1, 118873, 0, 21, 2014, 0, 41, 2049, 0, 61, 2084, 1, 1, 118853, 1, 21, 2013, 1, 41, 2048, 1, 61, 2083, 2, 1, 118853, 2, 21, 2013, 2, 41, 2048, 2, 61, 2083, 3, 1, 118852, 3, 21, 2013, 3, 41, 2048, 3, 61, 2083,
                 4, 1, 118853, 4, 21, 2014, 4, 41, 2049, 4, 61, 2084, 5, 1, 118853, 5, 21, 2013, 5, 41, 2048, 5, 61, 2083, 6, 1, 118853, 6, 21, 2013, 6, 41, 2048, 6, 61, 2083, 7, 1, 118852, 7, 21, 2013, 7, 41, 2048, 7, 61, 2083),
-            Sentences.index("poseClip(32)", "poseTime(32)", "poseWeight(32)", "poseClip(-1)"), "keep(0) = 3; tick(60); poseSize() = 8; restore(0) = 3; poseSize() = 32; poseWeight(31) = 2083\n");
+            Sentences.index("poseClip(32)", "poseTime(32)", "poseWeight(32)", "poseClip(-1)"), "keep(0) = 3; tick(60); poseSize() = 8; restore(0) = 3; poseSize() = 32; poseWeight(31) = 2083\n",
+            "# nothing of the large pose is left over in the smaller ones\n", "reset() = 3; set(0, 50); tick(1); poseSize() = 16; poseWeight(0) = 122917; set(1, 1); tick(1); poseSize() = 24; poseWeight(0) = 120874; poseWeight(1) = 2049; poseWeight(23) = 2083\n",
+            "reset() = 2; set(0, 0); set(1, 1); tick(1)\n", Sentences.pose(0, 0, 983334, 0, 41, 16666));
     }
 }

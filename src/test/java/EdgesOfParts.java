@@ -153,6 +153,9 @@ final class EdgesOfParts {
             "set(0, 1); partWeight(0, 1) = 800000; partWeight(0, 2) = 200000; partWeight(0, 0) = 0\n");
         Sentences.test("its blend is that of the child at the lowest, the greatest, or this position, with the weight w.", BLENDED, "addLine(0) = 2; addChild(2, 1, 3); addState(2, 100, true, 0)\n",
             "set(0, 2); partWeight(0, 1) = 1000000; set(0, 3); partWeight(0, 1) = 1000000; set(0, 4); partWeight(0, 1) = 1000000; poseSize() = 1\n");
+        // All of the weight goes to the child in one: a quarter of it is 250000, whatever a part of it were.
+        String nested = "addParameter(0); addParameter(0); addClip(10); addClip(10); addClipNode(0); addClipNode(1); addLine(0) = 2; addChild(2, 0, 0); addChild(2, 1, 4); addLine(1) = 3; addChild(3, 2, -5); addChild(3, 2, 0); addChild(3, 2, 5); addState(3, 100, true, 0); set(0, 1)\n";
+        Sentences.test("its blend is that of the child at the lowest, the greatest, or this position, with the weight w.", nested, "set(1, -5); partWeight(0, 1) = 250000; set(1, -6); partWeight(0, 1) = 250000; set(1, 0); partWeight(0, 1) = 250000; set(1, 5); partWeight(0, 1) = 250000; set(1, 6); partWeight(0, 1) = 250000; partWeight(0, 0) = 750000\n");
         // Of five children those next to the value on both sides, however far the others are.
         Sentences.test("Otherwise let p be the greatest position below v, and q the lowest one above v", BLENDED, "addClip(10); addClip(10); addClip(10); addClipNode(2); addClipNode(3); addClipNode(4); addLine(0) = 5\n",
             "addChild(5, 4, 100); addChild(5, 3, 50); addChild(5, 2, 0); addChild(5, 1, -50); addChild(5, 0, -100); addState(5, 100, true, 0)\n",
@@ -176,6 +179,9 @@ final class EdgesOfParts {
             "addState(0, 100, true, 0); addState(1, 100, true, 0); addState(3, 100, true, 0); addState(4, 100, true, 0); stateLength(0) = 1; stateLength(1) = 500\n",
             "# 1.99 is rounded down, and 495.01, too\n",
             "set(0, 99); stateLength(2) = 1; set(0, 100); stateLength(2) = 2; set(0, 1); stateLength(3) = 495; stateLength(2) = 1; set(0, 0); stateLength(3) = 500\n");
+        // 999999 * 2 + 1 * 1 is one less than two whole ticks.
+        Sentences.test("divided by WHOLE, but at least 1.", "addParameter(0); addClip(2); addClip(1); addClipNode(0); addClipNode(1); addLine(0) = 2; addLine(0) = 3; addLine(0) = 4; addChild(2, 0, 0); addChild(2, 1, 100); addChild(3, 0, 0); addChild(3, 2, 100); addChild(4, 0, 0); addChild(4, 3, 100)\n",
+            "addState(4, 100, true, 0); stateLength(0) = 2; set(0, 1); partWeight(0, 0) = 999999; stateLength(0) = 1\n");
         Sentences.test("It depends on the present values of the parameters.", "addParameter(0); addClip(10); addClip(20); addClipNode(0); addClipNode(1); addLine(0); addChild(2, 0, 0); addChild(2, 1, 10); addState(2, 100, true, 0)\n",
             "stateLength(0) = 10; tick(1); progress(false) = 100000; set(0, 10); stateLength(0) = 20; tick(1); progress(false) = 150000; set(0, 1); stateLength(0) = 11; reset(); stateLength(0) = 10\n");
     }
@@ -183,6 +189,9 @@ final class EdgesOfParts {
     private static void tracks() {
         Sentences.test("and is fresh until it has been advanced for the first time.", "addClip(10); addEvent(0, 0, 1); addEvent(0, 1, 2); addClipNode(0); addState(0, 100, true, 0)\n",
             "# at 0 as it is fresh, and at 100000; then it stands at 100000, and is fresh no more\n", "tick(1) = 2; tick(1) = 0; tick(7) = 0; tick(1) = 1; event(2, 1) = 1; tick(1) = 1; event(3, 1) = 2; tick(1) = 0\n");
+        // The target of a second transition is fresh as well, and so is the first state after a reset.
+        String again = "addClip(10); addClip(10); addEvent(0, 0, 1); addEvent(1, 5, 2); addEvent(1, 6, 3); addClipNode(0); addClipNode(1); addState(0, 100, true, 0); addState(1, 100, true, 0); addState(1, 100, true, 0); addTransition(0, 1, 2); addTransition(1, 2, 2); setTiming(0, NONE, 70); setTiming(1, 110, 50); setThreshold(0)\n";
+        Sentences.test("and is fresh until it has been advanced for the first time.", again, "tick(4) = 1; event(0, 1) = 1; state() = 1; progress(false) = 1100000; tick(1) = 2; event(1, 1) = 2; event(1, 3) = 2; event(2, 1) = 3; tick(1) = 0; state() = 2; reset() = 6; tick(1) = 1; event(0, 1) = 1\n");
         Sentences.test("Its progress is cycles * WHOLE + phase.", ONE, "tick(9); progress(false) = 900000; poseTime(0) = 9; tick(1); progress(false) = 1000000; poseTime(0) = 0; tick(1); progress(false) = 1100000; poseTime(0) = 1\n");
         Sentences.test("if its state loops, its progress increases by x, where the phase stays from 0 to WHOLE - 1", "addClip(3); addClipNode(0); addState(0, 100, true, 0)\n",
             "tick(3); progress(false) = 999999; poseTime(0) = 2; tick(1); progress(false) = 1333332; poseTime(0) = 0; tick(1); progress(false) = 1666665; poseTime(0) = 1\n");

@@ -81,6 +81,7 @@ final class EdgesOfText {
         Sentences.test(behind, BASE, Sentences.text("A>B/9?a=-100;A>B/9?a=100;A>B/9?a#-0", -1), "load() = 3; blocked(0) = 3; blocked(1) = 3; blocked(2) = 3; set(0, -100); blocked(0) = 0; blocked(2) = 0; set(0, 100); blocked(1) = 0; blocked(0) = 3\n");
         // The attributes of a transition are not those of the one before it.
         Sentences.test(behind, BASE, Sentences.text("A>B/9@3+4!2o?b;A>B/9", -1), "load() = 2; setTiming(1, 0, 0) = -1; setInterruption(1, 0, false) = 0; addCondition(1, 1, 2, 0) = 1; addCondition(0, 1, 2, 0) = 2; setTiming(0, 0, 0) = 3; setInterruption(0, 0, false) = 2\n");
+        Sentences.test(behind, BASE, Sentences.text("A>B/9+50o?b;A>B/9!1;A>B/9?b", -1), "load() = 3; tick(1); transition() = 1; progress(true) = 100000; blocked(0) = 3; blocked(2) = 3\n");
     }
 
     private static void kinds() {
@@ -106,6 +107,9 @@ final class EdgesOfText {
     private static void places() {
         String first = "The fault of the text is the index, from 0, of the first byte that cannot stand at its place.";
         faults(first, BASE, "xA>B/5", 0, "A>B/5x", 5, "A>B/5;A>B/5x", 11, "A>B/5o;A>x/5x", 9, "A>B/5oo;x", 6, "A>B/5", -1);
+        // Bytes that look like an end, or that a longer text has left behind, are told from the end of the text.
+        for (int code : new int[] {0, 10, 48 + 128, 59 + 128, 255}) Sentences.test(first, BASE, Sentences.text("A>B/5", -1), "type(" + code + ") = 6; fault() = 5\n", Sentences.state("load()"));
+        Sentences.test(first, BASE, Sentences.text("A>B/61;B>A/5", 4), Sentences.text("A>B/6", -1), "load() = 1; tick(5); elapsed() = 5; tick(1); transition() = -1; state() = 1\n");
         Sentences.test(first, BASE, "type(0) = 1; fault() = 0; clearText() = 1; type(255) = 1; fault() = 0; clearText() = 1; type(193) = 1; fault() = 0\n", Sentences.state("load()"));
         Sentences.test(first, BASE, Sentences.text("A>B/5" + "?b".repeat(3) + " ".repeat(138), -1), "type(120) = 150; fault() = 149\n");
         String told = "so > can stand even if no state could follow, and ~ even if no parameter is a switch; but a state or a parameter can stand only if it exists and is of a kind that is allowed there.)";

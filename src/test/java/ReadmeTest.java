@@ -14,8 +14,6 @@ import java.util.ArrayList;
 import java.util.Collections;
 import java.util.List;
 import java.util.regex.Pattern;
-import javax.tools.JavaCompiler;
-import javax.tools.ToolProvider;
 
 /**
  * README.md says what is so: the pieces of Java in it are compiled as one program, and each of them prints
@@ -72,13 +70,12 @@ final class ReadmeTest {
         }
     }
 
-    private static void compile(Path directory, String program) throws IOException {
+    private static void compile(Path directory, String program) throws Exception {
         Path file = directory.resolve("ReadmeProgram.java");
         Files.writeString(file, program);
-        JavaCompiler compiler = ToolProvider.getSystemJavaCompiler();
-        int result = compiler.run(null, null, null, "-Xlint:all", "-Werror", "-cp", System.getProperty("java.class.path"),
-            "-d", directory.toString(), file.toString());
-        if (result != 0) throw new IllegalStateException("the pieces of Java in README.md do not compile");
+        Process javac = new ProcessBuilder("javac", "-Xlint:all", "-Werror", "-cp", System.getProperty("java.class.path"),
+            "-d", directory.toString(), file.toString()).inheritIO().start();
+        if (javac.waitFor() != 0) throw new IllegalStateException("the pieces of Java in README.md do not compile");
     }
 
     private static String run(Path directory) throws Exception {
